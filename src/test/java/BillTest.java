@@ -110,6 +110,7 @@ public final class BillTest {
         DUE.same("of several greatest the least number", 5, () -> priceAt(0, 3, 600, 7, 1, 600, 5, 2, 1, 8));
         DUE.same("the next day", 9, () -> priceAt(86400 + 3600, 0, 600, 7, 1, 60, 9));
         DUE.same("a band set again", 4, () -> priceAt(36000, 0, 600, 7, 1, 60, 9, 0, 1200, 3, 1, 70, 4));
+        DUE.same("the last minute of the day before", 6, () -> priceAt(0, 0, 1439, 6, 1, 10, 2));
         DUE.same("the last minute", 6, () -> priceAt(86340, 0, 1439, 6, 1, 0, 2));
     }
 

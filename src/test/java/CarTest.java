@@ -4,6 +4,7 @@ public final class CarTest {
 
     public static void main(String[] args) {
         carComes();
+        hungerToTheLast();
         carRefuses();
         want();
         wantOfFull();
@@ -31,6 +32,36 @@ public final class CarTest {
         x.power(1, false);
         x.line(1, false);
         DUE.yes("a car needs no power", x.car(1, 0, 9, 100000));
+    }
+
+    private static void hungerToTheLast() {
+        OutletOffice x = Scene.withGoodCards();
+        // 23 watt-hours are 36 seconds at 2300 watts, to the watt-second.
+        Scene.begin(x, 0, 100, 1, 23);
+        x.pass(35);
+        DUE.same("a second before", 1, () -> x.about(0, 4));
+        x.pass(1);
+        DUE.same("nothing left of the hunger", 2, () -> x.about(0, 4));
+        x.pass(100);
+        DUE.same("no more than that", 82800, () -> x.meter(0));
+        Scene.begin(x, 1, 100, 1, 23);
+        x.pass(1000);
+        DUE.same("the same within one long call", 82800, () -> x.meter(1));
+        // One watt-hour more wants two seconds more.
+        Scene.begin(x, 3, 100, 1, 24);
+        x.pass(1000);
+        DUE.same("cut off to whole seconds", 38 * 2300, () -> x.meter(3));
+        // 313 tenths leave one of 7200 watt-seconds after the first second.
+        Scene.begin(x, 2, 313, 1, 2);
+        x.pass(1);
+        DUE.same("one watt-second is left", 1, () -> x.about(2, 4));
+        x.pass(1);
+        DUE.same("and eaten", 2, () -> x.about(2, 4));
+        Scene.begin(x, 5, 320, 1, 100000);
+        x.pass(48913);
+        DUE.same("the greatest hunger, nearly", 1, () -> x.about(5, 4));
+        x.pass(1);
+        DUE.same("the greatest hunger", 2, () -> x.about(5, 4));
     }
 
     private static void carRefuses() {

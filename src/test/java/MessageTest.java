@@ -7,6 +7,7 @@ public final class MessageTest {
         lostCall();
         lostAnswer();
         sentOnceIn20Seconds();
+        sentAgainWithinALongCall();
         outageDoesNotHasten();
         readings();
         readingsHaveAnEnd();
@@ -87,6 +88,17 @@ public final class MessageTest {
         x.pass(1);
         DUE.same("the next one was not sent yet", 1, () -> x.about(4, 1));
         DUE.same("the second message", 2, () -> x.about(4, 5));
+    }
+
+    private static void sentAgainWithinALongCall() {
+        OutletOffice x = Scene.withGoodCards();
+        Scene.begin(x, 1, 0, 1, 5);
+        x.pass(1);
+        x.lose(1);
+        x.pass(39);
+        x.lose(1);
+        x.pass(1);
+        DUE.same("sent at 1 and 21, so again at 41", 1, () -> x.about(1, 1));
     }
 
     private static void outageDoesNotHasten() {

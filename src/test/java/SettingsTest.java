@@ -39,8 +39,9 @@ public final class SettingsTest {
 
     private static void limitsAtFirst() {
         OutletOffice x = Scene.withGoodCards();
+        // With 481 the last one of a site would take 161.
         for (int p = 0; p < 6; p++) {
-            Scene.begin(x, p, 320, 1, 100);
+            Scene.begin(x, p, p < 4 ? 160 : 161, 1, 100);
         }
         DUE.same("sum of site 0 at limit 480", 480, () -> x.sum(0));
         DUE.same("sum of site 1 at limit 480", 480, () -> x.sum(1));
