@@ -23,6 +23,17 @@ final class Due {
         }
     }
 
+    void is(String call, long due, long got) {
+        same(call, due, () -> got);
+    }
+
+    void quiet(String call, Doing made) {
+        same(call + " throws nothing", 0, () -> {
+            made.run();
+            return 0;
+        });
+    }
+
     void yes(String call, boolean got) {
         calls++;
         if (!got) {

@@ -14,6 +14,8 @@ public final class ModelTest {
     // Runs differ in how often the line and the power fail, else few sessions would ever be billed.
     private final int troubles;
     private final int longest;
+    // Every third run draws its numbers from those that the document names and their neighbours.
+    private final boolean atEdges;
     private int calls = 0;
 
     private ModelTest(Due due, int seed) {
@@ -22,6 +24,7 @@ public final class ModelTest {
         this.run = "run " + seed + ", call ";
         this.troubles = seed % 4;
         this.longest = new int[] {3, 70, 1000, 4000, 90000}[seed % 5];
+        this.atEdges = seed % 3 == 0;
     }
 
     public static void main(String[] args) {
@@ -81,6 +84,10 @@ public final class ModelTest {
         return draw.nextInt(most + 1);
     }
 
+    private int oneOf(int... numbers) {
+        return numbers[draw.nextInt(numbers.length)];
+    }
+
     private void same(String call, long answer, Due.Call made) {
         calls++;
         due.same(run + calls + ": " + call, answer, made);
@@ -112,7 +119,7 @@ public final class ModelTest {
         } else if (kind == 19) {
             same("leave " + p, asLong(m.leave(p)), () -> asLong(x.leave(p)));
         } else if (kind == 20) {
-            int wants = upTo(3) == 0 ? 58 + upTo(4) : upTo(320);
+            int wants = drawWants();
             same("want " + p + " " + wants, asLong(m.want(p, wants)), () -> asLong(x.want(p, wants)));
         } else if (kind == 21) {
             set();
@@ -134,10 +141,25 @@ public final class ModelTest {
         return upTo(15) == 0 ? upTo(15) : upTo(7);
     }
 
+    private int drawWants() {
+        if (atEdges) {
+            return oneOf(0, 59, 60, 61, 99, 100, 101, 313, 319, 320);
+        }
+        int kind = upTo(7);
+        return kind == 0 ? upTo(320) : kind == 1 ? 58 + upTo(4) : 60 + upTo(260);
+    }
+
+    private int drawHours() {
+        if (atEdges) {
+            return oneOf(1, 2, 22, 23, 24, 100000);
+        }
+        return upTo(2) == 0 ? 1 + upTo(99999) : 1 + upTo(300);
+    }
+
     private void comeCar(int p) {
-        int wants = upTo(4) == 0 ? upTo(320) : 60 + upTo(260);
-        int weight = 1 + upTo(8);
-        int hours = upTo(2) == 0 ? 1 + upTo(99999) : 1 + upTo(300);
+        int wants = drawWants();
+        int weight = atEdges ? oneOf(1, 2, 9) : 1 + upTo(8);
+        int hours = drawHours();
         String call = "car " + p + " " + wants + " " + weight + " " + hours;
         same(call, asLong(m.car(p, wants, weight, hours)), () -> asLong(x.car(p, wants, weight, hours)));
     }
@@ -148,8 +170,18 @@ public final class ModelTest {
         }
     }
 
+    private int drawSeconds() {
+        if (atEdges) {
+            int toMinute = 60 - m.time() % 60;
+            int toTurn = 900 - m.time() % 900;
+            int near = oneOf(0, 1, 2, 19, 20, 21, 35, 36, toMinute, toMinute, toTurn);
+            return upTo(2) == 0 ? Math.max(0, near - 1) : near;
+        }
+        return upTo(3) == 0 ? Math.min(86400, upTo(longest)) : upTo(25);
+    }
+
     private void passSome() {
-        int seconds = upTo(3) == 0 ? Math.min(86400, upTo(longest)) : upTo(25);
+        int seconds = drawSeconds();
         same("pass " + seconds, m.pass(seconds), () -> x.pass(seconds));
     }
 
@@ -176,22 +208,34 @@ public final class ModelTest {
         }
     }
 
+    private int drawLimit() {
+        if (atEdges) {
+            int third = oneOf(59, 60, 61, 99, 100, 101, 319, 320, 321);
+            return oneOf(0, 2000, third, 2 * third, 3 * third, 3 * third - 1, 3 * third + 1);
+        }
+        return upTo(2) == 0 ? upTo(2000) : upTo(500);
+    }
+
+    private int drawFee() {
+        return atEdges ? oneOf(0, 1, 4999, 5000, 5001, 1000000) : upTo(1000000);
+    }
+
     private void set() {
         int kind = upTo(3);
         if (kind == 0) {
             int site = upTo(1);
-            int tenths = upTo(2) == 0 ? upTo(2000) : upTo(500);
+            int tenths = drawLimit();
             x.limit(site, tenths);
             m.limit(site, tenths);
         } else if (kind == 1) {
             int band = upTo(3);
-            int minute = upTo(1) == 0 ? upTo(1439) : upTo(5);
-            int price = upTo(100000);
+            int minute = atEdges ? oneOf(0, 1, 2, 15, 1438, 1439) : upTo(1) == 0 ? upTo(1439) : upTo(5);
+            int price = atEdges ? oneOf(0, 1, 4999, 5000, 100000) : upTo(100000);
             x.band(band, minute, price);
             m.band(band, minute, price);
         } else if (kind == 2) {
-            int start = upTo(1000000);
-            int idle = upTo(1000000);
+            int start = drawFee();
+            int idle = drawFee();
             x.fees(start, idle);
             m.fees(start, idle);
         } else {

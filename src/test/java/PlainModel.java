@@ -327,6 +327,10 @@ final class PlainModel {
         }
     }
 
+    int time() {
+        return time;
+    }
+
     int current(int point) {
         return currents()[point];
     }
