@@ -18,6 +18,7 @@ public final class SecondEdgeTest {
         readingsGoOnBelow22();
         notSentYet();
         sentAgainAfter20();
+        sentAgainWithinOneCall();
         sentAgainAfter20WithoutLine();
         sentAgainAfter20WithoutPower();
         sentAgainAfterALostAnswer();
@@ -56,15 +57,20 @@ public final class SecondEdgeTest {
 
     private static void hungerAt0() {
         OutletOffice x = Scene.withGoodCards();
-        // 23 watt-hours are 60 seconds at 1380 watts, to the watt-second.
-        Scene.begin(x, 0, 60, 1, 23);
-        x.pass(59);
+        // 23 watt-hours are 36 seconds at 2300 watts, to the watt-second.
+        Scene.begin(x, 0, 100, 1, 23);
+        Scene.begin(x, 1, 100, 1, 23);
+        x.pass(35);
         DUE.is("a second before", 1, x.about(0, 4));
         x.pass(1);
         DUE.is("at 0", 2, x.about(0, 4));
-        DUE.no("it may not want", x.want(0, 60));
+        DUE.no("it may not want", x.want(0, 100));
         x.pass(1);
         DUE.is("nothing more", 82800, x.meter(0));
+        x.leave(1);
+        Scene.begin(x, 1, 100, 1, 23);
+        x.pass(50);
+        DUE.is("nor within one call", 2 * 82800, x.meter(1));
     }
 
     private static void hungerBelow0() {
@@ -290,6 +296,21 @@ public final class SecondEdgeTest {
         x.lose(0);
         x.pass(1);
         DUE.is("21 seconds after the third time", 1, x.about(0, 1));
+    }
+
+    private static void sentAgainWithinOneCall() {
+        OutletOffice x = lostAt1();
+        x.pass(38);
+        DUE.yes("sent at 21, lost at 39", x.lose(0));
+        x.pass(1);
+        DUE.is("19 seconds after 21", 0, x.about(0, 1));
+        x.pass(1);
+        DUE.is("20 seconds after 21", 1, x.about(0, 1));
+        DUE.yes("lost at 41", x.lose(0));
+        x.pass(19);
+        DUE.is("at 60, with a reading behind it", 0, x.about(0, 1));
+        x.pass(1);
+        DUE.is("at 61", 1, x.about(0, 1));
     }
 
     private static void sentAgainAfter20WithoutLine() {

@@ -50,7 +50,13 @@ public final class SettingsTest {
     private static void pricesAtFirst() {
         OutletOffice x = Scene.withGoodCards();
         Scene.begin(x, 0, 320, 1, 1);
-        x.pass(3600);
+        x.pass(1);
+        x.carry(0);
+        DUE.same("no start fee at first", 0, () -> x.open(0));
+        // An idle fee of 1 would make a cent of these days.
+        for (int day = 0; day < 4; day++) {
+            x.pass(86400);
+        }
         x.leave(0);
         Scene.deliver(x, 0);
         DUE.same("bills without fees and bands", 1, x::bills);
