@@ -54,7 +54,7 @@ public final class SettingsTest {
         x.carry(0);
         DUE.same("no start fee at first", 0, () -> x.open(0));
         // An idle fee of 1 would make a cent of these days.
-        for (int day = 0; day < 4; day++) {
+        for (int day = 0; day < 12; day++) {
             x.pass(86400);
         }
         x.leave(0);
